@@ -11,10 +11,13 @@ public final class KettleBeats {
 
     private static final int TICKS = 40;
     private static final int PAUSES = 8, LAWS = 5, WORKS = 5, TAPE = 120, ROW = 20;
-    private static final int ODDS = 10, DELAYS = 3, LATER_PAUSES = 4;
+    private static final int BIGGEST = 99, ODDS = 10, DELAYS = 3, LATER_PAUSES = 4;
     private static final int LONGEST_WAIT = 9, LONGEST_PLAN = 20, EMPTY_ROW = -100;
     /** Of the works the one left out, if it is none of them. */
     private static final int NOBODY = -1;
+
+    private static final int COLD = 0, CHANNELS = 1, INERTIA = 2;
+    private static final int[] LEAST_SETTINGS = {0, 1, 1}, MOST_SETTINGS = {9, 9, 999};
 
     private static final int WHISTLE = 1, LATE = 2, SERIAL = 3, SILENT = 4, SKY = 5, SPREAD = 6;
 
@@ -40,7 +43,7 @@ public final class KettleBeats {
         if (outside(kind, 0, SPREAD)) {
             return NONE;
         }
-        if (noTick(tick) || outside(size, 0, 99) || outside(v, 0, 9)) {
+        if (noTick(tick) || outside(size, 0, BIGGEST) || outside(v, 0, 9)) {
             return BAD;
         }
         if (state.pauseCount >= PAUSES) {
@@ -69,12 +72,15 @@ public final class KettleBeats {
     }
 
     public int set(int what, int n) {
-        switch (what) {
-            case 0: return setCold(n);
-            case 1: return setChannels(n);
-            case 2: return setInertia(n);
-            default: return NONE;
+        if (outside(what, 0, state.settings.length - 1)) {
+            return NONE;
         }
+        if (outside(n, LEAST_SETTINGS[what], MOST_SETTINGS[what])) {
+            return BAD;
+        }
+        int was = state.settings[what];
+        state.settings[what] = n;
+        return was;
     }
 
     public int later(int pause, int now, int one) {
@@ -181,7 +187,7 @@ public final class KettleBeats {
         layMade(madeRow, NOBODY);
         int beat = 0;
         for (int t = 0; t <= tick; t++) {
-            beat += pushAt(t, state.inertia);
+            beat += pushAt(t, state.settings[INERTIA]);
         }
         return beat;
     }
@@ -195,7 +201,7 @@ public final class KettleBeats {
         }
         layDemand();
         layMade(madeRow, NOBODY);
-        return firstBeyond(bound, state.inertia);
+        return firstBeyond(bound, state.settings[INERTIA]);
     }
 
     public long wave(int what) {
@@ -204,11 +210,11 @@ public final class KettleBeats {
         }
         layDemand();
         layMade(madeRow, NOBODY);
-        int beat = pushAt(0, state.inertia);
+        int beat = pushAt(0, state.settings[INERTIA]);
         int lowest = beat;
         int highest = beat;
         for (int t = 1; t < TICKS; t++) {
-            beat += pushAt(t, state.inertia);
+            beat += pushAt(t, state.settings[INERTIA]);
             lowest = Math.min(lowest, beat);
             highest = Math.max(highest, beat);
         }
@@ -228,7 +234,7 @@ public final class KettleBeats {
         }
         layDemand();
         layMade(madeRow, NOBODY);
-        for (int inertia = 1; inertia <= 999; inertia++) {
+        for (int inertia = LEAST_SETTINGS[INERTIA]; inertia <= MOST_SETTINGS[INERTIA]; inertia++) {
             if (firstBeyond(bound, inertia) == HOLDS) {
                 return inertia;
             }
@@ -243,7 +249,9 @@ public final class KettleBeats {
         if (noBound(bound)) {
             return BAD;
         }
-        int plan = bestPlan(work, bound);
+        layDemand();
+        layMade(othersRow, work);
+        int plan = bestPlan(state.works[work], bound);
         if (plan == NO_WAY) {
             return NO_WAY;
         }
@@ -308,7 +316,9 @@ public final class KettleBeats {
         if (outside(r, 0, 999) || outside(m, 1, 20) || noBound(bound)) {
             return BAD;
         }
-        return firstByRule(work, r, m, bound);
+        layDemand();
+        layMade(othersRow, work);
+        return firstByRule(state.works[work], r, m, bound);
     }
 
     // ---- pumps, rows, waiting
@@ -359,7 +369,7 @@ public final class KettleBeats {
         }
         int size = 0;
         int least = offRow(0, tick);
-        for (int s = 1; s <= 99; s++) {
+        for (int s = 1; s <= BIGGEST; s++) {
             int off = offRow(s, tick);
             if (off < least) {
                 least = off;
@@ -377,11 +387,12 @@ public final class KettleBeats {
             return BAD;
         }
         layDemand();
-        int atOnce = peakWith(b, 0);
+        layDrawnBy(state.pauses[b], 0, drawnRows[0]);
+        int atOnce = peakWith(state.pauses[b], 0);
         int wait = 0;
         int least = atOnce;
         for (int delay = 1; delay <= LONGEST_WAIT; delay++) {
-            int peak = peakWith(b, delay);
+            int peak = peakWith(state.pauses[b], delay);
             if (peak < least) {
                 least = peak;
                 wait = delay;
@@ -468,35 +479,6 @@ public final class KettleBeats {
 
     private boolean noLaw() {
         return state.lawCount == 0;
-    }
-
-    // ---- setting
-
-    private int setCold(int n) {
-        if (outside(n, 0, 9)) {
-            return BAD;
-        }
-        int was = state.cold;
-        state.cold = n;
-        return was;
-    }
-
-    private int setChannels(int n) {
-        if (outside(n, 1, 9)) {
-            return BAD;
-        }
-        int was = state.channels;
-        state.channels = n;
-        return was;
-    }
-
-    private int setInertia(int n) {
-        if (outside(n, 1, 999)) {
-            return BAD;
-        }
-        int was = state.inertia;
-        state.inertia = n;
-        return was;
     }
 
     // ---- kinds
@@ -591,16 +573,13 @@ public final class KettleBeats {
     }
 
     /** The best plan as n times TICKS and the tick, or NO_WAY. */
-    private int bestPlan(int work, int bound) {
-        Work planned = state.works[work];
-        layDemand();
-        layMade(othersRow, work);
+    private int bestPlan(Work planned, int bound) {
         // Costs never fall as n grows, so the first plan found is the best one; past the store n changes nothing.
         int longest = Math.min(LONGEST_PLAN, planned.store);
         for (int n = 1; n <= longest; n++) {
             for (int from = 0; from < TICKS; from++) {
                 layPlan(planned, from, n);
-                if (firstBeyond(bound, state.inertia) == HOLDS) {
+                if (firstBeyond(bound, state.settings[INERTIA]) == HOLDS) {
                     return n * TICKS + from;
                 }
             }
@@ -614,10 +593,7 @@ public final class KettleBeats {
         }
     }
 
-    private int firstByRule(int work, int r, int m, int bound) {
-        Work led = state.works[work];
-        layDemand();
-        layMade(othersRow, work);
+    private int firstByRule(Work led, int r, int m, int bound) {
         Arrays.fill(dueRow, 0);
         int left = led.store;
         int beat = 0;
@@ -625,7 +601,7 @@ public final class KettleBeats {
             boolean gives = dueRow[t] != 0 && left > 0;
             left -= gives ? 1 : 0;
             madeRow[t] = othersRow[t] + (gives ? led.power : 0);
-            beat += pushAt(t, state.inertia);
+            beat += pushAt(t, state.settings[INERTIA]);
             if (Math.abs(beat) > bound) {
                 return t;
             }
@@ -713,7 +689,7 @@ public final class KettleBeats {
             }
             demandRow[t] = sum;
         }
-        return firstBeyond(bound, state.inertia);
+        return firstBeyond(bound, state.settings[INERTIA]);
     }
 
     private int delaysAsDigits() {
@@ -746,10 +722,9 @@ public final class KettleBeats {
         return sum;
     }
 
-    /** The greatest demand if, of all in demandRow, that one break came that much later. */
-    private int peakWith(int pause, int delay) {
-        layDrawnBy(state.pauses[pause], 0, drawnRows[0]);
-        layDrawnBy(state.pauses[pause], delay, drawnRows[1]);
+    /** The greatest demand if, of all in demandRow, the one in drawnRows[0] came that much later. */
+    private int peakWith(Pause waiting, int delay) {
+        layDrawnBy(waiting, delay, drawnRows[1]);
         int peak = demandRow[0] - drawnRows[0][0] + drawnRows[1][0];
         for (int t = 1; t < TICKS; t++) {
             peak = Math.max(peak, demandRow[t] - drawnRows[0][t] + drawnRows[1][t]);
@@ -771,9 +746,7 @@ public final class KettleBeats {
         int tapeSize = 0;
         final int[] row = new int[ROW];
         int rowSize = 0;
-        int cold = 0;
-        int channels = 1;
-        int inertia = 100;
+        final int[] settings = {0, 1, 100};
 
         void copyFrom(State other) {
             for (int p = 0; p < PAUSES; p++) {
@@ -794,13 +767,11 @@ public final class KettleBeats {
             tapeSize = other.tapeSize;
             System.arraycopy(other.row, 0, row, 0, ROW);
             rowSize = other.rowSize;
-            cold = other.cold;
-            channels = other.channels;
-            inertia = other.inertia;
+            System.arraycopy(other.settings, 0, settings, 0, settings.length);
         }
 
         int heads(int size) {
-            return size / Math.max(1, channels);
+            return size / Math.max(1, settings[CHANNELS]);
         }
 
         Law newestLaw() {
@@ -809,7 +780,7 @@ public final class KettleBeats {
 
         int percent(int size, int kind, int age, int tick) {
             Law law = newestLaw();
-            return law == null ? 0 : law.percent(age, cold, size, kind, tick);
+            return law == null ? 0 : law.percent(age, settings[COLD], size, kind, tick);
         }
 
         int plain(int size, int kind, int age, int tick) {
@@ -817,7 +788,7 @@ public final class KettleBeats {
             if (law == null || age < 0) {
                 return 0;
             }
-            int full = heads(size) * law.percent(age, cold, size, kind, tick) / 100;
+            int full = heads(size) * law.percent(age, settings[COLD], size, kind, tick) / 100;
             return Math.min(full, law.most);
         }
     }
