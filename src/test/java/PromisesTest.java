@@ -35,6 +35,7 @@ public final class PromisesTest {
         best();
         bestOfMany();
         sure();
+        sureWithWorks();
         worst();
         beside();
         besideLagStore();
@@ -380,12 +381,23 @@ public final class PromisesTest {
         holds("!(a=2|c=4)", 0, 10, 50, 12, false);
         holds("!a=9&c=4", 0, 10, 50, 12, true);
         holds("a=9|!(c=9|!(s=50&k=0))", 0, 10, 50, 12, true);
+        holds("a<0|a=2&c=4", 0, 10, 50, 12, true);
+        holds("a=2&!a<0", 0, 10, 50, 12, true);
+        holds("a=2|a<0", 0, 10, 50, 12, true);
+        holds("a=2&a<0", 0, 10, 50, 12, false);
         holds("a=2&c=4&s=50&k=0&t=12", 0, 10, 50, 12, true);
         holds("a=2&c=4&s=50&k=0&t=13", 0, 10, 50, 12, false);
         drawsAndEases();
     }
 
     private static void drawsAndEases() {
+        KettleBeats eight = Checks.withLaw("draw 1 a=0;draw 2 a=0;draw 4 a=0;draw 8 a=0;draw 16 a=0;draw 32 a=0;draw 64 a=0;ease 27 a=0");
+        eight.pause(0, 0, 99, 0);
+        due("8 eight clauses", eight.drawn(0, 0), 99);
+        KettleBeats wide = Checks.withLaw("draw 100 a=9|a=8|a=7|a=6|a=5|a=4|c=1|c=2|c=3|c=4|c=5|c=6|c=7|c=8|c=9|k=1|k=2|k=3|k=4|k=5|k=6|t=0|t=1|t=2|t=3|t=4|t=5");
+        wide.pause(0, 0, 99, 0);
+        due("8 all tests of a long one", wide.drawn(0, 5), 99);
+        due("8 none of a long one", wide.drawn(0, 10), 0);
         KettleBeats x = Checks.withLaw("draw 60 a<3;draw 30 a<2;ease 20 a=1;ease 80 a=2");
         x.pause(0, 10, 50, 0);
         due("8 both draws", x.drawn(0, 10), 45);
@@ -446,6 +458,9 @@ public final class PromisesTest {
         due("8 SERIAL of nobody", x.drawn(1, 10), 9);
         due("8 SERIAL without a percent", x.drawn(1, 20), 0);
         due("8 SPREAD halves each", x.drawn(2, 11), 30);
+        KettleBeats little = Checks.withLaw("draw 1 a=0");
+        little.pause(3, 0, 50, 6);
+        due("8 SERIAL by 1 percent", little.drawn(0, 0), 6);
         due("8 LATE by 0", x.drawn(3, 10), 20);
         due("8 SILENT by 0", x.drawn(4, 10), 20);
         due("8 SKY whatever most is", x.drawn(5, 39), 99);
@@ -609,6 +624,9 @@ public final class PromisesTest {
         due("14 inertia 1, on", x.beat(6), -790);
         x.set(2, 999);
         due("14 inertia 999", x.beat(39), 0);
+        KettleBeats atZero = Checks.withLaw(AT_ONCE);
+        atZero.pause(0, 0, 50, 0);
+        due("14 behind tick 0", atZero.beat(0), -5);
         due("14 tick -1", x.beat(-1), NO);
         due("14 tick 40", x.beat(40), NO);
     }
@@ -657,6 +675,10 @@ public final class PromisesTest {
         due("16 wave of both", x.wave(2), 27);
         x.call(0, 0, 2);
         due("16 lowest, not the 0 ahead", x.wave(0), 4);
+        KettleBeats atZero = Checks.withLaw("draw 100 a=0;draw 60 a=1");
+        atZero.pause(0, 0, 50, 0);
+        due("16 highest behind tick 0", atZero.wave(1), -5);
+        due("16 lowest behind tick 1", atZero.wave(0), -8);
         due("16 what -1", x.wave(-1), NO);
         due("16 what 3", x.wave(3), NO);
     }
@@ -687,6 +709,10 @@ public final class PromisesTest {
         y.pause(0, 0, 0, 0);
         due("17 990 by 990", y.inertia(1), 496);
         due("17 the last ones", y.inertia(0), 991);
+        KettleBeats w = Checks.withLaw("draw 999 a=0;draw 999 a=0;most 998");
+        w.pause(0, 0, 99, 0);
+        // 9980 by 998 is 10, by 999 it is 9.
+        due("17 the last one", w.inertia(9), 999);
         // By 4 it holds from 73 to 90 (1, 1, 1, 1, -4 and so on), not from 91 to 360 (0, 0, 0, 0, -3), and again from 361 on.
         KettleBeats z = Checks.withLaw("draw 100 a=4|a=9|a=14|a=19|a=24|a=29|a=34|a=39");
         z.pause(0, 0, 45, 0);
@@ -728,6 +754,21 @@ public final class PromisesTest {
         y.pause(0, 39, 50, 0);
         y.work(0, 50, 1, 99);
         best(y, 0, 0, 39, 1, 99);
+        bestOfEdges();
+    }
+
+    private static void bestOfEdges() {
+        KettleBeats x = Checks.withLaw(AT_ONCE);
+        x.work(0, 60, 5, 4);
+        due("18 it would hold without", x.first(5), -5);
+        best(x, 0, 5, -5, -5, -5);
+        best(x, 0, 6, 0, 1, 4);
+        x.pause(0, 0, 60, 0);
+        best(x, 0, 0, 0, 1, 4);
+        x.work(9, 99, 5, 4);
+        x.call(0, 0, 1);
+        // Beyond tick 39 it is not seen, but costs.
+        best(x, 1, 0, 31, 1, 8);
     }
 
     private static void bestOfMany() {
@@ -790,6 +831,7 @@ public final class PromisesTest {
         x.pause(0, 0, 0, 0);
         sure(x, 4, 21, 10000);
         x.later(4, 9, 1);
+        x.pause(0, 0, 0, 0);
         due("19 five may be later", x.sure(4, 0), NO);
         due("19 five may be later", x.sure(4, 1), NO);
         x.later(4, 10, 0);
@@ -799,6 +841,26 @@ public final class PromisesTest {
         due("19 bound 1000", x.sure(1000, 0), NO);
         due("19 part -1", x.sure(0, -1), NO);
         due("19 part 2", x.sure(0, 2), NO);
+    }
+
+    private static void sureWithWorks() {
+        KettleBeats x = Checks.withLaw(AT_ONCE);
+        x.pause(0, 0, 50, 0);
+        x.work(0, 50, 40, 0);
+        x.call(0, 0, 1);
+        sure(x, 0, 1, 1);
+        x.later(0, 7, 2);
+        // Made at tick 0, drawn at 0, 1 or 2.
+        sure(x, 0, 7, 10);
+        sure(x, 4, 7, 10);
+        sure(x, 5, 1, 1);
+        x.set(2, 50);
+        sure(x, 5, 7, 10);
+        x.call(0, 1, 1);
+        sure(x, 0, 1, 5);
+        x.call(0, 0, 0);
+        sure(x, 9, 0, 1);
+        due("20 first at tick 0", x.worst(9, 0), 0);
     }
 
     // ---- 20: worst
@@ -901,6 +963,14 @@ public final class PromisesTest {
         due("21 each tick but once", x.beside(0, 4, 2, 15), -5);
         due("21 store", x.beside(1, 4, 2, 5), -5);
         due("21 store", x.beside(1, 4, 2, 4), 5);
+        x.work(2, 50, 3, 0);
+        due("21 store of three", x.beside(2, 4, 2, 9), 10);
+        due("21 store of three", x.beside(2, 4, 2, 10), -5);
+        // -5 behind 5, below 0 as well: due at 6.
+        x.work(0, 50, 40, 0);
+        due("21 r 0", x.beside(3, 0, 2, 4), 5);
+        due("21 r 0", x.beside(3, 0, 2, 5), -5);
+        due("21 r 0", x.beside(3, 0, 3, 5), 8);
         KettleBeats y = Checks.withLaw("draw 100 a=0|a=10");
         y.pause(0, 5, 50, 0);
         y.work(0, 50, 1, 0);
@@ -932,6 +1002,14 @@ public final class PromisesTest {
         due("22 pump 10", x.pump(10, 0), NONE);
         due("22 k -1", x.pump(0, -1), BAD);
         due("22 k 5", x.pump(0, 5), BAD);
+        KettleBeats one = Checks.withLaw(AT_ONCE);
+        one.pause(0, 0, 1, 0);
+        one.pause(0, 1, 2, 0);
+        due("22 at tick 1", one.pump(0, 0), 1);
+        due("22 one behind", one.pump(1, 1), 2);
+        KettleBeats small = Checks.withLaw(AT_ONCE);
+        small.pause(0, 0, 1, 0);
+        due("22 little is more than nothing", small.pump(1, 1), 1);
         KettleBeats y = Checks.withLaw("draw 0 a=0");
         y.pause(4, 0, 50, 9);
         y.pause(4, 9, 50, 9);
@@ -1006,6 +1084,18 @@ public final class PromisesTest {
         watched(x, 2, 0, 45);
         x.set(0, 2);
         watched(x, 2, 33, 12);
+        Checks.law(x, "draw 100 a=0");
+        x.row(-100);
+        x.row(-3);
+        watched(x, 0, 0, 3);
+        x.row(1);
+        watched(x, 1, 1, 3);
+        x.row(98);
+        watched(x, 2, 98, 4);
+        x.row(99);
+        watched(x, 3, 99, 102);
+        x.row(999);
+        watched(x, 4, 99, 3 + 1 + 98 + 99 + 900);
         due("24 what -1", x.watched(0, -1), NONE);
         due("24 what 2", x.watched(0, 2), NONE);
         due("24 tick -1", x.watched(-1, 0), BAD);
@@ -1051,6 +1141,13 @@ public final class PromisesTest {
         y.pause(0, 39, 50, 0);
         y.pause(0, 39, 30, 0);
         waits(y, 0, 1, 1, 30);
+        KettleBeats w = Checks.withLaw(AT_ONCE);
+        w.pause(0, 0, 50, 0);
+        w.pause(0, 0, 30, 0);
+        w.pause(0, 1, 25, 0);
+        waits(w, 0, 1, 2, 30);
+        waits(w, 0, 2, 0, 0);
+        waits(w, 2, 1, 2, 30);
         KettleBeats z = Checks.withLaw("draw 100 a=0|t=3");
         z.pause(0, 0, 10, 0);
         z.pause(0, 1, 10, 0);
@@ -1225,6 +1322,11 @@ public final class PromisesTest {
         due("30 beat", x.beat(37), 40);
         due("30 beat", x.beat(39), 32);
         due("30 odds", x.worst(39, 1), 0);
+        // With no work it goes -4, -8, or with odds of 4 by 10 0, -4.
+        x.call(0, 0, 0);
+        due("30 odds, above", x.sure(4, 0), 2);
+        due("30 odds, below", x.sure(4, 1), 5);
+        x.undo();
         due("30 cold", x.set(0, 3), 3);
         due("30 channels", x.set(1, 2), 2);
         due("30 inertia", x.set(2, 50), 50);
