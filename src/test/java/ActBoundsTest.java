@@ -20,6 +20,7 @@ public final class ActBoundsTest {
         waitZeroToNine();
         waitOfSeveral();
         waitOfAllBreaks();
+        waitAtEachTick();
         waitIsWorth();
         actsWrap();
         actsByLiteral();
@@ -80,6 +81,18 @@ public final class ActBoundsTest {
         due("below 0 all the time", x.pump(0, 0), 36);
         due("more is nothing ahead", x.pump(3, 1), 0);
         due("of no break", Checks.withLaw(AT_ONCE).pump(5, 2), 0);
+        // It is neither above nor below 0 there: 1 is more, -1 is less.
+        KettleBeats above = Checks.withLaw(AT_ONCE);
+        above.pause(0, 0, 1, 0);
+        due("1 is more than ahead", above.pump(1, 1), 1);
+        KettleBeats below = Checks.withLaw("most 0");
+        for (int i = 0; i < 5; i++) {
+            below.pause(4, i == 4 ? 31 : 9 * i, 1, 9);
+        }
+        due("-1 all the time", below.pump(0, 0), 0);
+        due("-1 is less than ahead", below.pump(1, 1), 0);
+        below.set(1, 2);
+        due("all the same as ahead", below.pump(1, 1), 0);
     }
 
     // ---- "the TICK (0 .. 39) at which it feels the most (of several the first)"
@@ -290,6 +303,24 @@ public final class ActBoundsTest {
             below.pause(4, 9 * i - (i == 4 ? 5 : 0), 50, 9);
         }
         waits("below 0", below, 0, 1, 0, 0);
+    }
+
+    // ---- "the greatest DEMAND of all TICKS": at each of them it may be
+
+    private static void waitAtEachTick() {
+        for (int tick = 0; tick < 40; tick++) {
+            // From tick 31 on the second one can wait till it is not seen.
+            int unseen = tick >= 31 ? 40 - tick : 0;
+            waits("the second is less at " + tick, withTwo(AT_ONCE, tick, 70, tick, 20), 0, 1, 1, 20);
+            waits("the second is more at " + tick, withTwo(AT_ONCE, tick, 20, tick, 70), 0, 1, unseen > 0 ? unseen : 1, unseen > 0 ? 70 : 20);
+            waits("nothing to wait for at " + tick, withTwo(AT_ONCE, tick, 70, (tick + 20) % 40, 30), 0, 1, 0, 0);
+            // At the next three ticks others draw: there it would be more than at its own.
+            KettleBeats x = withTwo(AT_ONCE, 0, 0, tick, 30);
+            for (int t = tick + 1; t <= Math.min(39, tick + 3); t++) {
+                x.pause(0, t, 10, 0);
+            }
+            waits("others draw behind " + tick, x, 0, 1, unseen, unseen == 0 ? 0 : unseen == 1 ? 30 : 20);
+        }
     }
 
     // ---- "what it is worth: how much less that is than if it came at its TICK"
@@ -583,6 +614,15 @@ public final class ActBoundsTest {
         due("undo to it again", x.undo(), 7);
         due("seven", x.count(0), 7);
         due("an image behind an undo", x.image(), 7);
+        // Odds: how likely 1 later is in THE IMAGE by itself.
+        KettleBeats odds = Checks.withLaw(AT_ONCE);
+        odds.pause(0, 38, 50, 0);
+        odds.later(0, 0, 10);
+        odds.image();
+        odds.later(0, 0, 0);
+        due("2 later, not seen", odds.sure(0, 0), 1);
+        odds.undo();
+        due("1 later again", odds.sure(0, 0), 0);
         // What is in THE IMAGE is not changed by what comes behind it.
         KettleBeats y = Checks.withLaw(AT_ONCE);
         y.pause(0, 38, 50, 0);

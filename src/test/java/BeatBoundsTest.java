@@ -35,12 +35,14 @@ public final class BeatBoundsTest {
         worstOfSeveral();
         worstOfEight();
         worstHolds();
+        laterAtEachTick();
         ruleBelow();
         ruleForTicks();
         ruleLag();
         ruleStore();
         ruleInsteadOfItsCall();
         besideFirst();
+        askedFirstOfAll();
         Checks.close();
     }
 
@@ -732,6 +734,25 @@ public final class BeatBoundsTest {
         due("by -1", y.worst(-1, 1), BAD);
     }
 
+    // ---- "as if each came at its TICK, or 1, or 2 later": from tick 0 on, beyond tick 39 it is not seen
+
+    private static void laterAtEachTick() {
+        for (int tick = 0; tick < 40; tick++) {
+            KettleBeats x = plainBeat(AT_ONCE);
+            x.pause(0, tick, 9, 0);
+            for (int delay = 0; delay <= 2; delay++) {
+                x.later(0, delay == 0 ? 9 : 0, delay == 0 ? 0 : delay == 1 ? 10 : 0);
+                boolean seen = tick + delay < 40;
+                String what = "at " + tick + ", " + delay + " later";
+                worst(what, x, 8, seen ? tick + delay : -5, seen ? delay : -5);
+                worst(what + ", by 9", x, 9, -5, -5);
+                // Of ten 9 times at its TICK, once 2 later.
+                int missed = delay == 0 && tick + 2 > 39 ? 1 : seen ? 0 : 10;
+                sure(what, x, 8, missed == 10 ? 1 : missed, missed == 1 ? 10 : 1);
+            }
+        }
+    }
+
     // ---- "as often as THE BEAT is below -r behind a TICK"
 
     private static void ruleBelow() {
@@ -857,5 +878,46 @@ public final class BeatBoundsTest {
         due("by 999", none.beside(0, 0, 20, 999), 10);
         due("by 1000", none.beside(0, 0, 20, 1000), BAD);
         due("by -1", none.beside(0, 0, 20, -1), BAD);
+    }
+
+    // ---- No answer hangs on what was asked before: each is the first to be asked of a new object.
+
+    /** Drawn are 20 at ticks 0 to 2; one work gives 20 then, the other one 10 at tick 5. */
+    private static KettleBeats unasked() {
+        KettleBeats x = Checks.withLaw("draw 100 a<3");
+        x.set(2, 10);
+        x.pause(0, 0, 20, 0);
+        x.work(0, 20, 40, 3);
+        x.work(0, 10, 40, 1);
+        x.call(0, 0, 3);
+        x.call(1, 5, 1);
+        return x;
+    }
+
+    private static void askedFirstOfAll() {
+        due("demand, first asked", unasked().demand(2), 20);
+        due("made, first asked", unasked().made(5), 10);
+        due("costs, first asked", unasked().costs(), 10);
+        due("beat, first asked", unasked().beat(39), 10);
+        due("first, first asked", unasked().first(9), 5);
+        due("first by 10, first asked", unasked().first(10), -5);
+        due("lowest, first asked", unasked().wave(0), 0);
+        due("highest, first asked", unasked().wave(1), 10);
+        due("wave, first asked", unasked().wave(2), 10);
+        due("inertia, first asked", unasked().inertia(9), 11);
+        due("inertia by 50, first asked", unasked().inertia(50), 2);
+        due("best tick, first asked", unasked().best(0, 10, 0), 0);
+        due("best n, first asked", unasked().best(0, 10, 1), 3);
+        due("best costs, first asked", unasked().best(0, 10, 2), 10);
+        due("best beside the other, first asked", unasked().best(0, 9, 0), -5);
+        due("best of the other, first asked", unasked().best(1, 10, 2), 10);
+        due("sure, first asked", unasked().sure(10, 0), 1);
+        due("sure by 9, first asked", unasked().sure(9, 0), 0);
+        due("worst, first asked", unasked().worst(9, 0), 5);
+        due("worst's way, first asked", unasked().worst(10, 1), -5);
+        due("beside, first asked", unasked().beside(1, 0, 1, 0), -5);
+        due("beside of the other, first asked", unasked().beside(0, 999, 1, 59), 2);
+        due("beside of the other by 60, first asked", unasked().beside(0, 999, 1, 60), -5);
+        due("pump, first asked", unasked().pump(2, 2), 4);
     }
 }

@@ -9,6 +9,7 @@ public final class LawBoundsTest {
     }
 
     public static void main(String[] args) {
+        newObject();
         ticks();
         eightBreaks();
         kinds();
@@ -46,6 +47,23 @@ public final class LawBoundsTest {
         KettleBeats x = Checks.withLaw(law);
         x.pause(kind, tick, size, v);
         return x;
+    }
+
+    // ---- "No BREAKS, no WORKS, no LAW."
+
+    private static void newObject() {
+        KettleBeats x = new KettleBeats();
+        for (int what = 0; what <= 5; what++) {
+            due("count of " + what, x.count(what), 0);
+        }
+        due("count of -1", x.count(-1), NONE);
+        due("count of 6", x.count(6), NONE);
+        due("costs of nothing", x.costs(), 0);
+        due("made by nothing", x.made(0), 0);
+        due("an image of nothing", x.image(), 0);
+        due("cold", x.set(0, 0), 0);
+        due("channels", x.set(1, 1), 1);
+        due("inertia", x.set(2, 100), 100);
     }
 
     // ---- "TICKS 0 .. 39."
@@ -292,8 +310,9 @@ public final class LawBoundsTest {
             whole("draw 1 s>" + n);
             whole("draw 1 (t>" + n + ")");
         }
-        String[] wrongs = {"", "x", "-1", "+1", "00", "01", "000", "0999", "1000", "9999", "10000"};
-        int[] places = {0, 0, 0, 0, 1, 1, 1, 1, 3, 3, 3};
+        // The signs / and : are just ahead of 0 and just behind 9.
+        String[] wrongs = {"", "x", "-1", "+1", "00", "01", "000", "0999", "1000", "9999", "10000", "/", ":", "1/", "1:", "12/", "12:", "0/", "0:"};
+        int[] places = {0, 0, 0, 0, 1, 1, 1, 1, 3, 3, 3, 0, 0, 1, 1, 2, 2, 1, 1};
         for (int i = 0; i < wrongs.length; i++) {
             fault("most " + wrongs[i] + ";most 1", 5 + places[i]);
             fault("draw " + wrongs[i] + " a=0", 5 + places[i]);
