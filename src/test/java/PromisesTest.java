@@ -116,6 +116,22 @@ public final class PromisesTest {
         due("3 pause -1", x.of(-1, 0), NONE);
         due("3 pause 2", x.of(2, 0), NONE);
         due("3 far", x.of(LOW, HIGH), NONE);
+        ofEachKindAtEachNumber();
+    }
+
+    private static void ofEachKindAtEachNumber() {
+        for (int first = 0; first < 7; first++) {
+            KettleBeats x = new KettleBeats();
+            for (int i = 0; i < 8; i++) {
+                x.pause((first + i) % 7, 30 - i, 50 + i, 9 - i);
+            }
+            for (int i = 0; i < 8; i++) {
+                due("3 kind of " + i, x.of(i, 0), (first + i) % 7);
+                due("3 tick of " + i, x.of(i, 1), 30 - i);
+                due("3 size of " + i, x.of(i, 2), 50 + i);
+                due("3 v of " + i, x.of(i, 3), 9 - i);
+            }
+        }
     }
 
     // ---- 4: set
